@@ -32,6 +32,10 @@ final class Asm {
     static final int CODE = 0x80000400;
     static final int CODE_PHYSICAL = 0x400;
 
+    /** Where mapUserCode() puts instructions for user mode. */
+    static final int USER_CODE = 0x00400000;
+    static final int USER_PHYSICAL = 0x8000;
+
     static final int REFILL_VECTOR = 0x80000000;
     static final int FAULT_VECTOR = 0x80000180;
 
@@ -99,6 +103,16 @@ final class Asm {
         x.set(1, ENTRYLO1, low1);
         Check.same("TLBWI", run(x, TLBWI), 0);
         x.set(1, ENTRYHI, before);
+    }
+
+    /** Maps a page pair for user mode (entry 31, for all ASIDs) and puts the PC there. */
+    static void mapUserCode(PageMachine x) {
+        int status = x.get(1, STATUS);
+        x.set(1, STATUS, 0);
+        int frame = USER_PHYSICAL >> 12;
+        mapEntry(x, 31, USER_CODE, low(frame, 7), low(frame + 1, 7));
+        x.set(1, STATUS, status);
+        x.set(0, PC, USER_CODE);
     }
 
     /** ENTRYLO of a frame with bits (4 D, 2 V, 1 G). */
