@@ -3,7 +3,6 @@
  * themselves, beside 256 KB of memory.
  */
 public final class PageMachine {
-    /** Nothing there. */
     public static final int NONE = -1;
 
     private static final int MOST_STEPS = 20000;
@@ -37,7 +36,6 @@ public final class PageMachine {
         processor = new Processor(core, memory, system, tlb, space);
     }
 
-    /** Puts a word into memory at a physical address and answers the word that was there. */
     public int poke(int address, int word) throws IllegalArgumentException, IndexOutOfBoundsException {
         checkWordAddress(address);
         int before = memory.wordAt(address);
@@ -45,13 +43,11 @@ public final class PageMachine {
         return before;
     }
 
-    /** The word of memory at a physical address. */
     public int peek(int address) throws IllegalArgumentException, IndexOutOfBoundsException {
         checkWordAddress(address);
         return memory.wordAt(address);
     }
 
-    /** Writes register i (what 0; 32 HI, 33 LO, 34 PC) or system register i (what 1). */
     public void set(int what, int i, int v) throws IndexOutOfBoundsException {
         checkRegister(what, i);
         if (what == 1) {
@@ -67,7 +63,6 @@ public final class PageMachine {
         }
     }
 
-    /** Register i (what 0; 32 HI, 33 LO, 34 PC) or system register i (what 1). */
     public int get(int what, int i) throws IndexOutOfBoundsException {
         checkRegister(what, i);
         if (what == 1) {
@@ -82,7 +77,6 @@ public final class PageMachine {
         return i == PC ? core.pc : core.register(i);
     }
 
-    /** Turns a line from outside on or off and answers whether it was on. */
     public boolean line(int line, boolean on) throws IndexOutOfBoundsException {
         if (line < 0 || line >= SystemRegisters.LINES) {
             throw new IndexOutOfBoundsException("no such line");
@@ -90,7 +84,6 @@ public final class PageMachine {
         return system.switchLine(line, on);
     }
 
-    /** Does n steps and answers how many of them were faults. */
     public int step(int n) throws IllegalArgumentException {
         if (n < 1 || n > MOST_STEPS) {
             throw new IllegalArgumentException("steps are 1 .. 20000");
@@ -104,7 +97,6 @@ public final class PageMachine {
         return faults;
     }
 
-    /** Of a TLB entry: VPN * 8192 (0), ASID (1), G (2), its halves as in ENTRYLO with G 0 (3, 4). */
     public int entry(int entry, int what) throws IndexOutOfBoundsException {
         if (entry < 0 || entry >= Tlb.ENTRIES || what < 0 || what > 4) {
             throw new IndexOutOfBoundsException("no such entry or part of one");
@@ -117,7 +109,6 @@ public final class PageMachine {
         }
     }
 
-    /** The physical address of a data address, or -1 less the fault's code (-101 less it for a REFILL). */
     public long translate(int address, int how) throws IllegalArgumentException {
         if (how != AddressSpace.READ && how != AddressSpace.WRITE) {
             throw new IllegalArgumentException("how is 0 or 1");
@@ -130,7 +121,6 @@ public final class PageMachine {
         return (Fault.isRefill(fault) ? -101 : -1) - Fault.codeOf(fault);
     }
 
-    /** Puts the refill handler into memory from physical address 0 on and answers its length in words. */
     public int handler() {
         for (int i = 0; i < REFILL_HANDLER.length; i++) {
             memory.putWord(4 * i, REFILL_HANDLER[i]);
@@ -138,7 +128,6 @@ public final class PageMachine {
         return REFILL_HANDLER.length;
     }
 
-    /** Steps (0), faults with a code (1 + the code), in a delay slot (15), LINK (16). */
     public int count(int what) throws IndexOutOfBoundsException {
         if (what < 0 || what > 16) {
             throw new IndexOutOfBoundsException("no such count");
@@ -212,7 +201,7 @@ public final class PageMachine {
         }
     }
 
-    /** 256 KB of words; the highest byte of a word has the lowest address. */
+    /** Held as words, not bytes, as an object then has a quarter of the elements. */
     private static final class Memory {
         private static final int BYTES = 262144;
 
@@ -236,7 +225,6 @@ public final class PageMachine {
         }
     }
 
-    /** The table of pages. */
     private static final class Tlb {
         static final int ENTRIES = 32;
         static final int PAGE = 0xFFFFE000;
@@ -277,7 +265,6 @@ public final class PageMachine {
             oddHalves[at] = low1 & HALF;
         }
 
-        /** The lowest entry that matches an address under the ASID of an ENTRYHI, or NONE. */
         int match(int address, int entryHi) {
             int page = address & PAGE;
             int asid = entryHi & ASID;
@@ -290,7 +277,6 @@ public final class PageMachine {
         }
     }
 
-    /** The registers of the system coprocessor, with the timer and the lines from outside. */
     private static final class SystemRegisters {
         static final int NUMBERS = 32;
         static final int LINES = 6;
@@ -325,6 +311,8 @@ public final class PageMachine {
         private static final int FIRST_LINE_BIT = 10;
         private static final int IN_DELAY_SLOT = 1 << 31;
         private static final int COPROCESSOR_AND_CODE = 0x3000007C;
+        private static final int REFILL_VECTOR = 0x80000000;
+        private static final int FAULT_VECTOR = 0x80000180;
 
         private final int[] values = new int[NUMBERS];
         // Apart from CAUSE, as its bit 15 has two causes that come and go on their own.
@@ -346,7 +334,7 @@ public final class PageMachine {
             int bits = WRITTEN_BITS[at];
             values[at] = values[at] & ~bits | value & bits;
             if (at == INDEX) {
-                values[INDEX] &= ~NOT_FOUND;
+                values[INDEX] &= bits;
             } else if (at == WIRED) {
                 values[RANDOM] = LAST_RANDOM;
             } else if (at == COMPARE) {
@@ -401,7 +389,7 @@ public final class PageMachine {
             return values[EPC];
         }
 
-        /** Takes down a fault of the instruction at pc and answers where the processor goes on. */
+        /** Answers where the processor goes on, as only EXL from before tells it. */
         int enterFault(int fault, int pc, boolean inDelaySlot, int address) {
             boolean first = (values[STATUS] & EXL) == 0;
             if (first) {
@@ -412,7 +400,7 @@ public final class PageMachine {
             values[CAUSE] = values[CAUSE] & ~COPROCESSOR_AND_CODE | Fault.coprocessorOf(fault) << 28 | code << 2;
             noteAddress(code, address);
             values[STATUS] |= EXL;
-            return first && Fault.isRefill(fault) ? 0x80000000 : 0x80000180;
+            return first && Fault.isRefill(fault) ? REFILL_VECTOR : FAULT_VECTOR;
         }
 
         private void noteAddress(int code, int address) {
@@ -457,7 +445,7 @@ public final class PageMachine {
             return -1 - fault;
         }
 
-        /** As locate, but the address has to have none of the bits of an alignment (0, 1 or 3). */
+        /** The alignment is a mask (0, 1 or 3) of bits that the address must not have. */
         long locateAligned(int address, int how, int alignment) {
             asked = address;
             if ((address & alignment) != 0) {
@@ -495,7 +483,7 @@ public final class PageMachine {
         }
     }
 
-    /** What instructions work on: the registers, the flow of control, and the instruction's own fields. */
+    /** Where the PC goes is settled in begin() and finish(), so that an instruction with a fault moves nothing. */
     private static final class Core {
         static final int LINK_REGISTER = 31;
 
@@ -599,7 +587,7 @@ public final class PageMachine {
         }
     }
 
-    /** Instructions on registers alone: op 0 (but its jumps), the traps of op 1, 8 to F, and 1C. */
+    /** The instructions that touch nothing but registers, and so have no fault but OV, TR, SYS, BP and RI. */
     private static final class Arithmetic {
         private final Core core;
 
@@ -607,8 +595,7 @@ public final class PageMachine {
             this.core = core;
         }
 
-        /** op 0 */
-        int special() {
+        int performOp0() {
             int fn = core.fn();
             switch (fn >>> 3) {
                 case 0: return shift(fn);
@@ -713,7 +700,6 @@ public final class PageMachine {
             }
         }
 
-        /** op 1, rt 08 to 0F */
         int trapImmediate() {
             return trap(core.rt() & 7, core.signedImmediate());
         }
@@ -731,7 +717,6 @@ public final class PageMachine {
             }
         }
 
-        /** op 8 to F */
         int immediate() {
             int s = core.s();
             int rt = core.rt();
@@ -750,8 +735,7 @@ public final class PageMachine {
             }
         }
 
-        /** op 1C */
-        int special2() {
+        int performOp1C() {
             int s = core.s();
             switch (core.fn()) {
                 case 0x00: return core.putProduct(hiLo() + product());
@@ -786,7 +770,7 @@ public final class PageMachine {
         }
     }
 
-    /** Branches and jumps: all are reserved in a delay slot. */
+    /** Apart from other instructions, as all of these are a fault RI in a delay slot. */
     private static final class Branches {
         private final Core core;
 
@@ -794,7 +778,6 @@ public final class PageMachine {
             this.core = core;
         }
 
-        /** op 0, fn 08 and 09 */
         int jumpToRegister(boolean linked) {
             if (core.inDelaySlot) {
                 return Fault.RI;
@@ -803,7 +786,6 @@ public final class PageMachine {
             return linked ? core.put(core.rd(), core.pc + 8) : Fault.NO;
         }
 
-        /** op 2 and 3 */
         int jump(boolean linked) {
             if (core.inDelaySlot) {
                 return Fault.RI;
@@ -812,7 +794,6 @@ public final class PageMachine {
             return linked ? core.put(Core.LINK_REGISTER, core.pc + 8) : Fault.NO;
         }
 
-        /** op 1, rt 00 to 03 and 10 to 13 */
         int bySign() {
             if (core.inDelaySlot) {
                 return Fault.RI;
@@ -823,7 +804,6 @@ public final class PageMachine {
             return kind >= 0x10 ? core.put(Core.LINK_REGISTER, core.pc + 8) : Fault.NO;
         }
 
-        /** op 4 to 7 and 14 to 17 */
         int byComparison() {
             if (core.inDelaySlot) {
                 return Fault.RI;
@@ -852,7 +832,6 @@ public final class PageMachine {
         }
     }
 
-    /** Loads and stores. */
     private static final class LoadsAndStores {
         private static final int LB = 0x20;
         private static final int LH = 0x21;
@@ -921,7 +900,6 @@ public final class PageMachine {
             }
         }
 
-        /** What a register with an old value holds after a load of the byte `at` (0 .. 3) of a word. */
         private static int loaded(int op, int word, int at, int old) {
             int fromHere = word << 8 * at;
             int bitsBehind = 24 - 8 * at;
@@ -936,7 +914,6 @@ public final class PageMachine {
             }
         }
 
-        /** What a word of memory holds after a store to its byte `at` (0 .. 3). */
         private static int stored(int op, int word, int at, int value) {
             int bitsBehind = 24 - 8 * at;
             switch (op) {
@@ -953,7 +930,6 @@ public final class PageMachine {
         }
     }
 
-    /** op 10 and CACHE. */
     private static final class Coprocessor {
         private static final int CACHE = 0x2F;
 
@@ -1028,7 +1004,6 @@ public final class PageMachine {
         }
     }
 
-    /** Does steps: counts, looks for interrupts, fetches, hands out instructions and enters faults. */
     private static final class Processor {
         private final Core core;
         private final Memory memory;
@@ -1060,7 +1035,6 @@ public final class PageMachine {
             return code >= 0 && code < Fault.CODES ? faultsByCode[code] : 0;
         }
 
-        /** Does one step and answers whether it was a fault. */
         boolean stepWasFault() {
             stepsDone++;
             system.tick();
@@ -1100,8 +1074,8 @@ public final class PageMachine {
 
         private int perform(int op) {
             switch (op) {
-                case 0x00: return performSpecial();
-                case 0x01: return performByRt();
+                case 0x00: return performOp0();
+                case 0x01: return performOp1();
                 case 0x02: return branches.jump(false);
                 case 0x03: return branches.jump(true);
                 case 0x04: case 0x05: case 0x06: case 0x07:
@@ -1119,7 +1093,7 @@ public final class PageMachine {
                 case 0x13:
                     return Fault.noCoprocessor(3);
                 case 0x1C:
-                    return arithmetic.special2();
+                    return arithmetic.performOp1C();
                 case 0x20: case 0x21: case 0x22: case 0x23:
                 case 0x24: case 0x25: case 0x26: case 0x30:
                     return loadsAndStores.load();
@@ -1132,15 +1106,15 @@ public final class PageMachine {
             }
         }
 
-        private int performSpecial() {
+        private int performOp0() {
             switch (core.fn()) {
                 case 0x08: return branches.jumpToRegister(false);
                 case 0x09: return branches.jumpToRegister(true);
-                default: return arithmetic.special();
+                default: return arithmetic.performOp0();
             }
         }
 
-        private int performByRt() {
+        private int performOp1() {
             switch (core.rt() >>> 2) {
                 case 0: case 4: return branches.bySign();
                 case 2: case 3: return arithmetic.trapImmediate();

@@ -142,6 +142,12 @@ final class FaultTest {
         Check.same("an instruction at an even address", x.step(1), 1);
         state(x, "an instruction at an even address", Asm.FAULT_VECTOR, 4 << 2, 0x80000402, 2);
         address(x, "an instruction at an even address", 0x80000402, 0x80000000, 0x23);
+        for (int at : new int[] {0x80000401, 0x80000403, 0x40000001}) {
+            x.set(1, Asm.STATUS, 0);
+            x.set(0, Asm.PC, at);
+            Check.same("an instruction at an odd address", x.step(1), 1);
+            state(x, "an instruction at an odd address", Asm.FAULT_VECTOR, 4 << 2, at, 2);
+        }
         x.set(1, Asm.STATUS, 0);
         x.set(0, 1, 0x40000002);
         Asm.run(x, Asm.i(0x2B, 1, 2, 0));

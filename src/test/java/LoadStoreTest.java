@@ -11,6 +11,7 @@ final class LoadStoreTest {
     public static void main(String[] args) {
         loads();
         stores();
+        partsOfWords();
         offsets();
         alignment();
         links();
@@ -79,6 +80,29 @@ final class LoadStoreTest {
         store(0x2B, 0, OLD);
     }
 
+    /** Zeros against ones, so that a bit too much or too little shows. */
+    private static void partsOfWords() {
+        int[] leftBytes = {-1, 0x00FFFFFF, 0x0000FFFF, 0x000000FF};
+        int[] rightBytes = {0xFF000000, 0xFFFF0000, 0xFFFFFF00, -1};
+        for (int at = 0; at < 4; at++) {
+            for (int word : new int[] {0, -1}) {
+                PageMachine x = ready();
+                x.poke(AT, word);
+                x.set(0, 2, ~word);
+                int high = leftBytes[at] << 8 * at;
+                int low = rightBytes[at] >>> 8 * (3 - at);
+                Check.same("LWL", Asm.oneResult(x, Asm.i(0x22, 1, 2, at), 2), word & high | ~word & ~high);
+                x.set(0, 2, ~word);
+                Check.same("LWR", Asm.oneResult(x, Asm.i(0x26, 1, 2, at), 2), word & low | ~word & ~low);
+                x.set(0, 2, ~word);
+                Asm.oneResult(x, Asm.i(0x2A, 1, 2, at), 2);
+                Check.same("SWL", x.poke(AT, word), word ^ leftBytes[at]);
+                Asm.oneResult(x, Asm.i(0x2E, 1, 2, at), 2);
+                Check.same("SWR", x.peek(AT), word ^ rightBytes[at]);
+            }
+        }
+    }
+
     private static void offsets() {
         PageMachine x = ready();
         x.set(0, 1, BASE + 0x8000);
@@ -87,6 +111,12 @@ final class LoadStoreTest {
         Check.same("a large offset", Asm.oneResult(x, Asm.i(0x23, 1, 2, 0x7FFC), 2), WORD);
         x.set(0, 1, 0xA0001000);
         Check.same("A0000000 is the same memory", Asm.oneResult(x, Asm.i(0x23, 1, 2, 0), 2), WORD);
+        x.poke(0, 78);
+        x.set(0, 1, 0x80000000);
+        Check.same("the first word", Asm.oneResult(x, Asm.i(0x23, 1, 2, 0), 2), 78);
+        x.set(0, 2, 79);
+        Asm.oneResult(x, Asm.i(0x2B, 1, 2, 0), 2);
+        Check.same("the first word is stored", x.peek(0), 79);
         x.poke(262140, 77);
         x.set(0, 1, 0x8003FFFC);
         Check.same("the last word", Asm.oneResult(x, Asm.i(0x23, 1, 2, 0), 2), 77);

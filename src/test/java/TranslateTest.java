@@ -103,6 +103,7 @@ final class TranslateTest {
         both(x, 0xC0000000, -5, -6);
         both(x, 0xFFFFFFFF, -5, -6);
         both(x, 0x7FFFFFFF, 0x2FFF, 0x2FFF);
+        both(x, 0, -3, -4);
         both(x, 0x2000, -103, -104);
         x.set(1, Asm.STATUS, 0x10000010);
         both(x, 0x80000000, -5, -6);
