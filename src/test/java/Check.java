@@ -6,15 +6,35 @@ final class Check {
 
     private static int wrong = 0;
     private static int asked = 0;
+    private static String sentence = "";
+    private static int askedBefore = 0;
 
     private Check() {
+    }
+
+    /** From here on answers are asked for the sake of these words of the document. */
+    static void sentence(String words) {
+        endSentence();
+        sentence = words;
+        askedBefore = asked;
+    }
+
+    // A sentence that nothing is asked for would look as if it held.
+    private static void endSentence() {
+        if (!sentence.isEmpty() && asked == askedBefore) {
+            tell("nothing was asked for");
+        }
+    }
+
+    private static void tell(String what) {
+        wrong++;
+        System.out.println(sentence.isEmpty() ? what : "\"" + sentence + "\": " + what);
     }
 
     static void same(String what, long got, long due) {
         asked++;
         if (got != due) {
-            wrong++;
-            System.out.println(what + " answered " + got + " (" + Long.toHexString(got) + "), due is "
+            tell(what + " answered " + got + " (" + Long.toHexString(got) + "), due is "
                 + due + " (" + Long.toHexString(due) + ")");
         }
     }
@@ -37,8 +57,7 @@ final class Check {
             got = e.getClass();
         }
         if (got != due) {
-            wrong++;
-            System.out.println(what + " threw " + got + ", due is " + due);
+            tell(what + " threw " + got + ", due is " + due);
         }
     }
 
@@ -51,6 +70,7 @@ final class Check {
     }
 
     static void finish() {
+        endSentence();
         System.out.println(asked + " answers asked for, " + wrong + " not as due");
         if (wrong != 0 || asked == 0) {
             System.exit(1);
