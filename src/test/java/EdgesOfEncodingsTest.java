@@ -9,6 +9,7 @@ final class EdgesOfEncodingsTest {
         op1();
         op1C();
         op10ByRs();
+        op10WithoutBit25();
         op10ByFn();
         reservedFields();
         otherFields();
@@ -24,7 +25,7 @@ final class EdgesOfEncodingsTest {
         return false;
     }
 
-    /** RI or not, in kernel mode, in user mode with CU0, and in a delay slot; with other fields all 0 or all 1. */
+    /** RI or not, in kernel mode and in user mode with CU0, with other fields all 0 or all 1. */
     private static void reserved(int word, int otherFields, boolean due) {
         for (int w : new int[] {word, word | otherFields}) {
             for (int status : new int[] {0, 0x10000010}) {
@@ -45,7 +46,7 @@ final class EdgesOfEncodingsTest {
     }
 
     private static void ops() {
-        Check.sentence("All that is not named: RI.");
+        Check.sentence("op 11, 31, 35, 39, 3D: CPU (coprocessor 1); 12, 32, 36, 3A, 3E: CPU (2); 13: CPU (3). All that is not named: RI.");
         for (int op = 0; op < 64; op++) {
             boolean named = op <= 0x17 || op == 0x1C
                 || among(op, 0x20, 0x21, 0x22, 0x23, 0x24, 0x25, 0x26, 0x28, 0x29, 0x2A, 0x2B, 0x2E, 0x2F, 0x30, 0x31, 0x32,
@@ -82,7 +83,21 @@ final class EdgesOfEncodingsTest {
     private static void op10ByRs() {
         Check.sentence("rs 00 MFC0: rt = system register rd; 04 MTC0: it is T.");
         for (int rs = 0; rs < 16; rs++) {
-            reserved(0x10 << 26 | rs << 21, 0x001FFFFF, rs != 0 && rs != 4);
+            for (int fn : new int[] {0, 1, 2, 6, 8, 0x18, 0x20}) {
+                reserved(0x10 << 26 | rs << 21 | fn, 0x001FFFC0, rs != 0 && rs != 4);
+            }
+        }
+    }
+
+    private static void op10WithoutBit25() {
+        Check.sentence("With bit 25: by fn");
+        for (int fn : new int[] {1, 2, 6, 8, 0x18, 0x20}) {
+            PageMachine x = after(Asm.mfc0(3, Asm.PRID) | fn);
+            Check.same("MFC0 with fn " + fn, x.get(0, 3), 0x00018000);
+            new State(after(Asm.mfc0(3, Asm.PRID))).staysBut("MFC0 with fn " + fn, x);
+            PageMachine y = after(Asm.mtc0(1, Asm.COMPARE) | fn);
+            Check.same("MTC0 with fn " + fn, y.get(1, Asm.COMPARE), 0x80001001);
+            new State(after(Asm.mtc0(1, Asm.COMPARE))).staysBut("MTC0 with fn " + fn, y);
         }
     }
 

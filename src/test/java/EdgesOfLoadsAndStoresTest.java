@@ -16,6 +16,7 @@ final class EdgesOfLoadsAndStoresTest {
         lwr();
         swl();
         swr();
+        zerosAndOnes();
         partsAtTheEnd();
         partsWithFaults();
         ll();
@@ -140,6 +141,38 @@ final class EdgesOfLoadsAndStoresTest {
         store(0x2E, 1, 0xC3D4017F);
         store(0x2E, 2, 0xB2C3D47F);
         store(0x2E, 3, 0xA1B2C3D4);
+    }
+
+    /** A word of zeros and a register of ones, and the other way round: a bit too much or too little shows. */
+    private static void zerosAndOnes() {
+        Check.sentence("the bytes from it on to the word's end are the highest of rt, others stay; 26 LWR");
+        for (int word : new int[] {0, -1}) {
+            for (int k = 0; k < 4; k++) {
+                int fromHere = -1 >>> 8 * k;
+                int upToHere = -1 << 24 - 8 * k;
+                int[] due = {word ^ ~(fromHere << 8 * k), word ^ ~(upToHere >>> 24 - 8 * k)};
+                int[] ops = {0x22, 0x26};
+                for (int i = 0; i < 2; i++) {
+                    PageMachine x = at(word);
+                    x.set(0, 2, ~word);
+                    Check.same(Integer.toHexString(ops[i]) + " at " + k, Asm.oneResult(x, Asm.i(ops[i], 1, 2, k), 2), due[i]);
+                }
+                int[] stored = {word ^ fromHere, word ^ upToHere, word ^ 0xFF000000 >>> 8 * k};
+                int[] storeOps = {0x2A, 0x2E, 0x28};
+                for (int i = 0; i < 3; i++) {
+                    PageMachine x = at(word);
+                    x.set(0, 2, ~word);
+                    Asm.oneResult(x, Asm.i(storeOps[i], 1, 2, k), 2);
+                    Check.same(Integer.toHexString(storeOps[i]) + " at " + k, x.peek(AT), stored[i]);
+                }
+            }
+            for (int k = 0; k < 4; k += 2) {
+                PageMachine x = at(word);
+                x.set(0, 2, ~word);
+                Asm.oneResult(x, Asm.i(0x29, 1, 2, k), 2);
+                Check.same("SH at " + k, x.peek(AT), word ^ 0xFFFF0000 >>> 8 * k);
+            }
+        }
     }
 
     private static void partsAtTheEnd() {

@@ -4,6 +4,7 @@ final class EdgesOfStateTest {
     }
 
     public static void main(String[] args) {
+        constants();
         registerZeroBySet();
         registerZeroByInstructions();
         atFirst();
@@ -18,6 +19,11 @@ final class EdgesOfStateTest {
         noSuchSystemRegister();
         refusedCalls();
         Check.finish();
+    }
+
+    private static void constants() {
+        Check.sentence("The constants: `NONE = -1`: Nothing there.");
+        Check.same("NONE", PageMachine.NONE, -1);
     }
 
     private static void registerZeroBySet() {

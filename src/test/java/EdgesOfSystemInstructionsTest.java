@@ -24,6 +24,7 @@ final class EdgesOfSystemInstructionsTest {
         eretAndLink();
         wait1();
         cache();
+        cacheAnywhere();
         otherCoprocessors();
         Check.finish();
     }
@@ -304,6 +305,16 @@ final class EdgesOfSystemInstructionsTest {
             Check.same("CACHE in user mode", x.step(1), 1);
             Check.same("CPU", x.get(1, Asm.CAUSE), 11 << 2);
             Check.same("PC", x.get(0, Asm.PC), Asm.FAULT_VECTOR);
+        }
+    }
+
+    private static void cacheAnywhere() {
+        Check.sentence("2F CACHE (op): CPU as op 10, else nothing");
+        for (int address : new int[] {0x80001001, 0x2000, 0x2001, 0x80040000, 0xC0000003}) {
+            PageMachine x = user(0, CACHE);
+            x.set(0, 1, address);
+            Check.same("CACHE asks for no address", x.step(1), 0);
+            Check.same("PC", x.get(0, Asm.PC), Asm.USER_CODE + 4);
         }
     }
 

@@ -1,8 +1,13 @@
 import java.util.Random;
 
-/** Promises 1 to 11: random runs of calls, the same on PageMachine and on PlainModel. */
+/**
+ * Promises 1 to 11: random runs of calls, the same on PageMachine and on PlainModel. A run keeps
+ * to the 512 calls for which an object is good.
+ */
 final class ModelTest {
-    private static final int RUNS = 3000;
+    private static final int RUNS = 6000;
+    private static final int ROUNDS = 8;
+    private static final int MOST_CALLS = 512;
     private static final int[] STATUSES = {0, 1, 0x10, 0x12, 0xFF01, 0xFF11, 0x10000010, 0x1000FF13, 0x0400, 0x8011};
     private static final int[] VALUES = {
         0, 1, 2, 3, 31, 32, -1, -2, 0x7FFFFFFF, 0x80000000, 0x80000001, 0x7FFF, 0x8000, 0xFFFF8000, 0xFFFF7FFF,
@@ -20,6 +25,7 @@ final class ModelTest {
     private final int run;
     private final PageMachine x = new PageMachine();
     private final PlainModel y = new PlainModel();
+    private int calls;
 
     private ModelTest(int run) {
         this.run = run;
@@ -77,7 +83,7 @@ final class ModelTest {
     private long play() {
         long faults = 0;
         prepare();
-        for (int k = 0; k < 12; k++) {
+        for (int k = 0; k < ROUNDS; k++) {
             change();
             int n = one(1, 2, 5, 20, 60);
             int due = 0;
@@ -86,20 +92,23 @@ final class ModelTest {
             }
             faults += due;
             same("step " + n, x.step(n), due);
-            compare();
+            compareSome();
         }
+        compareAll();
         compareMemory();
+        Check.isTrue("run " + run + " has " + calls + " calls", calls <= MOST_CALLS);
         return faults;
     }
 
     private void prepare() {
         if (random.nextInt(2) == 0) {
-            x.handler();
+            same("handler", x.handler(), 7);
             for (int at = 0; at < 28; at += 4) {
                 y.putWord(at, x.peek(at));
+                calls++;
             }
         }
-        for (int k = 0; k < 100; k++) {
+        for (int k = 0; k < 64; k++) {
             put(0x400 + 4 * k, instruction());
         }
         for (int k = 0; k < 6; k++) {
@@ -120,19 +129,21 @@ final class ModelTest {
     }
 
     private void setPc(int v) {
+        calls++;
         x.set(0, Asm.PC, v);
         y.pc = v;
         y.slot = false;
     }
 
     private void setSystem(int number, int v) {
+        calls++;
         x.set(1, number, v);
         y.systemWrite(number, v);
     }
 
     /** An entry for a low page or one at C0000000, by TLBWI in kernel mode. */
     private void entry() {
-        int pc = x.get(0, Asm.PC);
+        int pc = y.pc;
         setSystem(Asm.STATUS, 0);
         setSystem(Asm.INDEX, random.nextInt(32));
         setSystem(Asm.ENTRYHI, one(0, 0, 0x2000, 0x4000, 0xC0000000) | random.nextInt(2));
@@ -151,6 +162,7 @@ final class ModelTest {
         for (int k = 0; k < 6; k++) {
             int number = 1 + random.nextInt(5);
             int v = value();
+            calls++;
             x.set(0, number, v);
             y.reg[number] = v;
         }
@@ -158,7 +170,7 @@ final class ModelTest {
             setSystem(Asm.STATUS, one(STATUSES));
         }
         if (random.nextInt(3) == 0) {
-            setSystem(Asm.COMPARE, x.get(1, Asm.COUNT) + random.nextInt(30));
+            setSystem(Asm.COMPARE, y.count + random.nextInt(30));
         }
         if (random.nextInt(3) == 0) {
             setSystem(random.nextInt(32), value());
@@ -177,41 +189,52 @@ final class ModelTest {
         }
     }
 
+    /** Each answer that is compared is one call. */
     private void same(String what, long got, long due) {
+        calls++;
         Check.same("run " + run + ": " + what, got, due);
     }
 
-    private void compare() {
+    private void compareSome() {
+        same("PC", x.get(0, Asm.PC), y.pc);
+        same("delay slot", x.count(15), y.slot ? 1 : 0);
+        same("CAUSE", x.get(1, Asm.CAUSE), y.system(Asm.CAUSE));
+        same("STATUS", x.get(1, Asm.STATUS), y.system(Asm.STATUS));
+        int register = random.nextInt(32);
+        same("register " + register, x.get(0, register), y.reg[register]);
+        int number = random.nextInt(32);
+        same("system register " + number, x.get(1, number), y.system(number));
+        int address = value();
+        same("reading " + address, x.translate(address, 0), y.translated(address, false));
+        same("writing " + address, x.translate(address, 1), y.translated(address, true));
+    }
+
+    private void compareAll() {
         for (int i = 0; i < 32; i++) {
             same("register " + i, x.get(0, i), y.reg[i]);
         }
         same("HI", x.get(0, Asm.HI), y.hi);
         same("LO", x.get(0, Asm.LO), y.lo);
-        same("PC", x.get(0, Asm.PC), y.pc);
-        for (int i = 0; i < 17; i++) {
+        for (int i = 0; i < 16; i++) {
             same("system register " + i, x.get(1, i), y.system(i));
         }
         same("steps", x.count(0), y.steps);
         for (int code = 0; code < 14; code++) {
             same("faults with " + code, x.count(1 + code), y.faults[code]);
         }
-        same("delay slot", x.count(15), y.slot ? 1 : 0);
         same("LINK", x.count(16), y.link ? 1 : 0);
-        for (int k = 0; k < 8; k++) {
-            int address = value();
-            same("reading " + address, x.translate(address, 0), y.translated(address, false));
-            same("writing " + address, x.translate(address, 1), y.translated(address, true));
+        for (int k = 0; k < 6; k++) {
+            int entry = random.nextInt(32);
+            for (int what = 0; what < 5; what++) {
+                same("entry " + entry + ", " + what, x.entry(entry, what), y.entryField(entry, what));
+            }
         }
     }
 
+    /** The words that were written, as many as calls are left for. */
     private void compareMemory() {
-        for (int k = 0; k < 32; k++) {
-            for (int what = 0; what < 5; what++) {
-                same("entry " + k + ", " + what, x.entry(k, what), y.entryField(k, what));
-            }
-        }
-        for (int at = 0; at < 262144; at += 4) {
-            if (x.peek(at) != y.word(at)) {
+        for (int at : y.touched) {
+            if (calls < MOST_CALLS) {
                 same("memory at " + at, x.peek(at), y.word(at));
             }
         }

@@ -1,3 +1,5 @@
+import java.util.TreeSet;
+
 /**
  * A second machine, written from the document line by line and in another way than PageMachine
  * (bytes, longs, exceptions for faults), so that a slip in one of them shows against the other.
@@ -30,6 +32,8 @@ final class PlainModel {
     }
 
     final byte[] bytes = new byte[262144];
+    /** Words that were, or might have been, written by instructions. */
+    final TreeSet<Integer> touched = new TreeSet<>();
     final int[] reg = new int[32];
     int hi;
     int lo;
@@ -115,6 +119,9 @@ final class PlainModel {
         }
         if (to >= 262144) {
             throw fault(instruction ? 6 : 7);
+        }
+        if (write) {
+            touched.add((int) to & ~3);
         }
         return (int) to;
     }
